@@ -73,24 +73,33 @@ public final class TeaJunction {
 
     private static final Word[] WORDS = Word.values();
 
-    private final Tape tape = new Tape();
-    private final PlanReader planReader = new PlanReader(tape);
-    private final DaysReader daysReader = new DaysReader(tape);
-    private Plan plan = new Plan();
+    private final Tape tape;
+    private final PlanReader planReader;
+    private final DaysReader daysReader;
+    private Plan plan;
     private Plan draft = new Plan();
-    private final State now = new State();
+    private final State now;
     private final State trial = new State();
     private final State[] marks = new State[MARKS];
-    private final Round round = new Round(plan, now);
+    private final Round round;
     private final int[] undone = new int[MOST_UNDONE * ROW];
     private int undoable;
     private final int[] gains = new int[(1 << MOST_BUYERS) * MOST_BUYERS];
 
     public TeaJunction() {
+        Tape text = new Tape();
+        Plan first = new Plan();
+        State hand = new State();
+        hand.startWith(first);
+        tape = text;
+        planReader = new PlanReader(text);
+        daysReader = new DaysReader(text);
+        plan = first;
+        now = hand;
+        round = new Round(first, hand);
         for (int i = 0; i < marks.length; i++) {
             marks[i] = new State();
         }
-        now.startWith(plan);
     }
 
     public int feed(long a, long b, long c) {
@@ -152,7 +161,7 @@ public final class TeaJunction {
             case 4: return of.bits;
             case 5: return (now.out >> buyer) & 1;
             case 6: return plan.wayOf(buyer, now.urn);
-            case 7: return plan.goesAt(buyer, now);
+            case 7: return plan.goesAt(plan.wayOf(buyer, now.urn), now.bell);
             default: return NONE;
         }
     }
@@ -723,9 +732,9 @@ public final class TeaJunction {
             key = 0;
             if (next >= length) {
                 kind = END_TOKEN;
-            } else if (isLetter(signs[next])) {
+            } else if (signs[next] >= 'a' && signs[next] <= 'z') {
                 stepWord();
-            } else if (isDigit(signs[next])) {
+            } else if (signs[next] >= '0' && signs[next] <= '9') {
                 stepNumber();
             } else {
                 sign = signs[next];
@@ -735,7 +744,7 @@ public final class TeaJunction {
         }
 
         private void stepWord() {
-            while (next < length && isLetter(signs[next])) {
+            while (next < length && signs[next] >= 'a' && signs[next] <= 'z') {
                 key = key * 32 + (signs[next] - 'a' + 1);
                 next++;
             }
@@ -753,19 +762,11 @@ public final class TeaJunction {
 
         private void stepNumber() {
             number = 0;
-            while (next < length && isDigit(signs[next])) {
+            while (next < length && signs[next] >= '0' && signs[next] <= '9') {
                 number = number * 10 + (signs[next] - '0');
                 next++;
             }
             kind = next - place > 4 ? NO_TOKEN : NUMBER_TOKEN;
-        }
-
-        private static boolean isLetter(char c) {
-            return c >= 'a' && c <= 'z';
-        }
-
-        private static boolean isDigit(char c) {
-            return c >= '0' && c <= '9';
         }
 
         boolean isSign(char wanted) {
@@ -856,6 +857,7 @@ public final class TeaJunction {
             int top = 0;
             for (int i = 0; i < length; i++) {
                 int sign = code[i];
+                // The facts and all NUMBERS are at MANY or above, what joins two is below NOT.
                 if (sign >= MANY) {
                     if (top < pile.length) {
                         pile[top] = sign >= 0 ? sign : sign == FAR ? far
@@ -868,22 +870,20 @@ public final class TeaJunction {
                     }
                 } else if (top > 1) {
                     top--;
-                    pile[top - 1] = joined(sign, pile[top - 1], pile[top]);
+                    int a = pile[top - 1];
+                    int b = pile[top];
+                    switch (sign) {
+                        case AND: pile[top - 1] = a != 0 && b != 0 ? 1 : 0; break;
+                        case OR: pile[top - 1] = a != 0 || b != 0 ? 1 : 0; break;
+                        case LESS: pile[top - 1] = a < b ? 1 : 0; break;
+                        case SAME: pile[top - 1] = a == b ? 1 : 0; break;
+                        case PLUS: pile[top - 1] = a + b; break;
+                        case MINUS: pile[top - 1] = a - b; break;
+                        default: pile[top - 1] = a * b; break;
+                    }
                 }
             }
             return top > 0 ? pile[0] : 0;
-        }
-
-        private static int joined(int sign, int a, int b) {
-            switch (sign) {
-                case AND: return a != 0 && b != 0 ? 1 : 0;
-                case OR: return a != 0 || b != 0 ? 1 : 0;
-                case LESS: return a < b ? 1 : 0;
-                case SAME: return a == b ? 1 : 0;
-                case PLUS: return a + b;
-                case MINUS: return a - b;
-                default: return a * b;
-            }
         }
     }
 
@@ -983,13 +983,13 @@ public final class TeaJunction {
 
     /** A JUNCTION as it is told. */
     private static final class Plan {
-        int stop = 600;
-        int bell = 540;
-        int women = 2;
-        int change = 10;
-        int lips = 60;
-        int sip = 30;
-        int pace = 5;
+        int stop;
+        int bell;
+        int women;
+        int change;
+        int lips;
+        int sip;
+        int pace;
         final int[] late = new int[LATES];
         final Order order = new Order();
         int coaches;
@@ -1001,7 +1001,7 @@ public final class TeaJunction {
         final Buyer[] buyer = new Buyer[MOST_BUYERS];
 
         Plan() {
-            late[0] = 10;
+            clear();
             for (int i = 0; i < thing.length; i++) {
                 thing[i] = new Thing();
             }
@@ -1063,8 +1063,8 @@ public final class TeaJunction {
             return farOf(who, urn) * pace / 10;
         }
 
-        int goesAt(int who, State at) {
-            return Math.max(0, Math.min(at.bell, stop - wayOf(who, at.urn)));
+        int goesAt(int way, int bell) {
+            return Math.max(0, Math.min(bell, stop - way));
         }
 
         int secsFor(int who) {
@@ -1119,7 +1119,13 @@ public final class TeaJunction {
             } else {
                 told |= line.once;
                 tape.step();
-                readOnce(plan, line);
+                if (line == Word.LATE) {
+                    readLate(plan);
+                } else if (line == Word.ORDER) {
+                    orderReader.readWhole(plan.order, 0);
+                } else {
+                    readOnce(plan, line);
+                }
             }
             tape.takeSign(';');
         }
@@ -1137,12 +1143,8 @@ public final class TeaJunction {
                 plan.lips = tape.takeNumber(0, 99);
             } else if (line == Word.SIP) {
                 plan.sip = tape.takeNumber(1, 120);
-            } else if (line == Word.PACE) {
-                plan.pace = tape.takeNumber(1, 30);
-            } else if (line == Word.LATE) {
-                readLate(plan);
             } else {
-                orderReader.readWhole(plan.order, 0);
+                plan.pace = tape.takeNumber(1, 30);
             }
         }
 
@@ -1467,8 +1469,9 @@ public final class TeaJunction {
                 free[w] = 0;
             }
             for (int i = 0; i < plan.buyers; i++) {
-                comes[i] = plan.buyer[i].kind == EARLY ? 0 : plan.wayOf(i, at.urn);
-                goes[i] = plan.goesAt(i, at);
+                int way = plan.wayOf(i, at.urn);
+                comes[i] = plan.buyer[i].kind == EARLY ? 0 : way;
+                goes[i] = plan.goesAt(way, at.bell);
                 begins[i] = NONE;
                 servedAt[i] = NONE;
                 drunk[i] = 0;

@@ -390,6 +390,15 @@ public final class PromiseTest {
         due("r", x.served(3, 0), 30);
         due("p", x.served(1, 0), 39);
         due("q", x.served(2, 0), 48);
+        // As much as can wait for its right side: four values at each of five depths.
+        String deep = "0 or 1 < 0 + 1 * many";
+        for (int i = 0; i < 4; i++) {
+            deep = "0 or 0 < 0 + 1 * (" + deep + ")";
+        }
+        x = allOut(text + "order " + deep + ";");
+        due("deep: who wants two is served last", x.served(2, 0), 48);
+        x = allOut(text + "order " + deep.replace("1 < 0 + 1 * many", "1 < 0 + 3 - many * 1") + ";");
+        due("deep: who wants two is served first", x.served(2, 0), 30);
         x = allOut(text + "order 9999*9999*43*many;");
         // 4299140043 wraps to 4172747, twice as much to 8345494
         due("wraps: r", x.served(3, 0), 30);
@@ -532,6 +541,11 @@ public final class PromiseTest {
         yes("urn 90", x.set(1, 90));
         // He begins at 5 if the bell is later, and is behind then.
         due("ring so that he is not served", x.ring(), 1);
+        x = allOut("stop 60 bell 60; coach a yards 200; thing t pie secs 40 price 1 hot 0 cools 0; sip 20;"
+                + "buyer p plain coach a odds 0 dear 0 wants t; pace 30;");
+        due("nowhere but at 200", x.stand(), 200);
+        yes("urn", x.set(1, 200));
+        due("at the stop alone", x.ring(), 60);
     }
 
     private static void bestHeat() {
