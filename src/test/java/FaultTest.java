@@ -72,6 +72,8 @@ public final class FaultTest {
             junction(3, line + "|" + line);
             junction(3, line + C + "|" + line.substring(0, line.indexOf(' ')));
         }
+        junction(3, "women 1;lips 1;sip 1;|women 1;");
+        junction(3, "order 1;lips 1;women 1;|order 1;");
         junction(0, "order 1;late 0 0 0 10;pace 30;sip 120;lips 99;change 60;women 2;stop 900 bell 900;");
         junction(1, "stop 60 |bel 1;");
         junction(1, "stop 60 bell 1 |1;");
@@ -261,6 +263,11 @@ public final class FaultTest {
         days(5, forty + "|out nobody;");
         days(1, forty + "|walk;");
         days(1, forty + "|;");
+        TeaJunction y = new TeaJunction();
+        Check.due("longer", Check.junction(y, "women 11111;"), 1 + 16 * 6);
+        Check.due("what stood behind the end is gone", Check.junction(y, "women 1"), 1 + 16 * 7);
+        Check.due("longer", Check.junction(y, "womenwomen"), 1);
+        Check.due("letters, too", Check.junction(y, "women"), 1 + 16 * 5);
         TeaJunction x = new TeaJunction();
         Check.due("of no junction told", Check.days(x, "run;out b;"), 2 + 16 * 8);
     }

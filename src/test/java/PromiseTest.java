@@ -35,6 +35,7 @@ public final class PromiseTest {
         seen();
         years();
         marks();
+        marksHold();
         counts();
         Check.end("PromiseTest");
     }
@@ -390,6 +391,12 @@ public final class PromiseTest {
         due("r", x.served(3, 0), 30);
         due("p", x.served(1, 0), 39);
         due("q", x.served(2, 0), 48);
+        // What is so is 1 and nothing else: r is ahead of q, who would be the first of equal ones.
+        for (String one : new String[] {"exact and 7", "0 or exact", "exact*3 = 3", "0 < exact", "not (many-1)"}) {
+            x = allOut(text + "order 0-((" + one + ") = 1);");
+            due(one + ": r", x.served(3, 0), 30);
+            due(one + ": p", x.served(1, 0), 39);
+        }
         // As much as can wait for its right side: four values at each of five depths.
         String deep = "0 or 1 < 0 + 1 * many";
         for (int i = 0; i < 4; i++) {
@@ -647,6 +654,15 @@ public final class PromiseTest {
         yes("ann", x.out(0, true));
         yes("heats 30", x.heats(0, 30));
         due("the bun behind it is drunk", x.ahead(0, 1), 1000);
+        // Below 20 only because lips are: the bun behind it waits for that second, 60, all the same.
+        x = Check.at(SMALL.replace("cools 10", "cools 20").replace("wants bun cha", "wants cha bun")
+                .replace("lips 70", "lips 10"));
+        yes("ann", x.out(0, true));
+        yes("heats 30", x.heats(0, 30));
+        yes("bell 80", x.set(0, 80));
+        due("the bun from 60 to 80", x.ahead(0, 1), 1000);
+        yes("bell 79", x.set(0, 79));
+        due("not by 79", x.ahead(0, 1), 0);
         // In the order in which they are served: ann has the one, bob has his fresh.
         x = Check.at(SMALL + "late 10 0 0 0;");
         yes("ann", x.out(0, true));
@@ -801,6 +817,32 @@ public final class PromiseTest {
         no("mark -1", x.mark(-1, false));
         no("mark 4 back", x.mark(4, true));
         no("mark -1 back", x.mark(-1, true));
+    }
+
+    private static void marksHold() {
+        TeaJunction x = small();
+        yes("ann", x.out(0, true));
+        yes("mark 0, nothing sold or seen", x.mark(0, false));
+        yes("sell(0, 4)", x.sell(0, 4));
+        yes("see(564, 0)", x.see(564, 0));
+        yes("mark 1", x.mark(1, false));
+        yes("back to 0", x.mark(0, true));
+        due("nothing sold", x.laws(-1), 100);
+        due("nothing seen", x.was(), 1023);
+        yes("sell(0, 5)", x.sell(0, 5));
+        yes("see(564, 1)", x.see(564, 1));
+        due("5", x.laws(0), 5);
+        due("all but nine", x.was(), 511);
+        yes("back to 1", x.mark(1, true));
+        due("4 again", x.laws(0), 4);
+        due("nine again", x.was(), 512);
+        due("days", Check.days(x, "out bob; run;"), 0);
+        yes("mark 2", x.mark(2, false));
+        due("days", Check.days(x, "run; run; run;"), 0);
+        due("idle", x.judged(0), 0);
+        yes("back to 2", x.mark(2, true));
+        due("the days of the mark", x.judged(2), 1);
+        due("and how many", x.count(8), 2);
     }
 
     private static void counts() {
