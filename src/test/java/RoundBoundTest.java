@@ -1,5 +1,5 @@
 /** The bounds of a ROUND: WAY, COMES, GOES, who waits, who is served next, how hot, what is LEFT, who is BEHIND. */
-public final class RoundBoundTest {
+public final class RoundBoundTest extends Told {
     private static final int MAX_INT = Integer.MAX_VALUE;
 
     private RoundBoundTest() {
@@ -32,38 +32,6 @@ public final class RoundBoundTest {
         paid();
         nobody();
         Check.end("RoundBoundTest");
-    }
-
-    private static void due(String what, long got, long want) {
-        Check.due(what, got, want);
-    }
-
-    private static void yes(String what, boolean got) {
-        Check.due(what, got, true);
-    }
-
-    private static String coach(String name, int yards) {
-        return "coach " + name + " yards " + yards + ";";
-    }
-
-    private static String pie(String name, int secs) {
-        return "thing " + name + " pie secs " + secs + " price 1 hot 0 cools 0;";
-    }
-
-    private static String tea(String name, int secs, int hot, int cools) {
-        return "thing " + name + " tea secs " + secs + " price 1 hot " + hot + " cools " + cools + ";";
-    }
-
-    private static String buyer(String name, String kind, String coach, String wants) {
-        return "buyer " + name + " " + kind + " coach " + coach + " odds 0 dear 0 wants " + wants + ";";
-    }
-
-    private static TeaJunction allOut(String text) {
-        TeaJunction x = Check.at(text);
-        for (int i = 0; i < x.count(2); i++) {
-            yes("out", x.out(i, true));
-        }
-        return x;
     }
 
     private static TeaJunction one(String head, int yards) {
