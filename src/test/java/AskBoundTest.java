@@ -39,6 +39,7 @@ public final class AskBoundTest extends Told {
         aheadTooCold();
         aheadItAlone();
         aheadInOrder();
+        aheadOfTwo();
         aheadByOdds();
         mosts();
         Check.end("AskBoundTest");
@@ -245,7 +246,8 @@ public final class AskBoundTest extends Told {
     }
 
     private static void errandOfAll() {
-        TeaJunction x = Check.at(queue(0, 0, 0, 0, 0, 0).replace("secs 20", "secs 9").replace("60 bell 59", "60 bell 54"));
+        String six = queue(0, 0, 0, 0, 0, 0).replace("secs 20", "secs 9");
+        TeaJunction x = Check.at(six.replace("bell 59", "bell 54"));
         errand("all six", x, 63, 63, 0, 54);
         errand("five", x, 62, 62, 1, 45);
         errand("the last", x, 32, 32, 5, 9);
@@ -297,6 +299,11 @@ public final class AskBoundTest extends Told {
         table("q alone", x, 3, 3, 3, 3, 3, 3);
         yes("q is in", x.out(1, false));
         table("nobody", x, 0, 0, 0, 0, 0, 0);
+        x = allOut(text + "order many;");
+        due("rule 2", x.table(1, 2), 3);
+        due("the ROUND goes by order", x.round(1), 0);
+        due("rule 1", x.table(2, 1), 3);
+        due("the ROUND is of one woman", x.round(1), 0);
         table("q has the least", allOut(text + "order 0-many;"), 3, 0, 3, 3, 3, 3);
         table("without order", allOut(text), 0, 0, 3, 3, 3, 3);
         table("nobody is told", new TeaJunction(), 0, 0, 0, 0, 0, 0);
@@ -391,9 +398,10 @@ public final class AskBoundTest extends Told {
         due("late", ringing(900, 60, 120).ring(), 180);
         due("a new one", new TeaJunction().ring(), 1);
         String text = "stop 900 bell 1; sip 120; women 1;" + coach("a", 0) + pie("t", 60) + pie("u", 60) + pie("v", 60);
-        due("three", allOut(text + buyer("p", "plain", "a", "t u v")).ring(), 540);
-        due("the last second of all", allOut(text + buyer("q", "plain", "a", "t u v") + buyer("r", "plain", "a", "t u v")
-                + buyer("s", "plain", "a", "t u v")).ring(), 900);
+        String all = "t u v";
+        due("three", allOut(text + buyer("p", "plain", "a", all)).ring(), 540);
+        due("the last second of all", allOut(text + buyer("q", "plain", "a", all) + buyer("r", "plain", "a", all)
+                + buyer("s", "plain", "a", all)).ring(), 900);
     }
 
     private static TeaJunction lateOne(int secs, int sip) {
@@ -428,7 +436,8 @@ public final class AskBoundTest extends Told {
 
     /** From 97 to 60 it takes 111 seconds, from 98 114, from 99 117; he begins at 1 and sips 1. */
     private static void bestByPence() {
-        int[][] due = {{112, 97}, {115, 98}, {116, 99}, {118, 99}, {119, 0}, {300, 0}, {2, 61}, {4, 61}, {5, 62}, {1, 0}};
+        int[][] due = {{112, 97}, {115, 98}, {116, 99}, {118, 99}, {119, 0}, {300, 0}, {2, 61}, {4, 61}, {5, 62},
+            {1, 0}};
         for (int[] n : due) {
             TeaJunction x = warming(n[0], 2, 60);
             due("by pence, bell " + n[0], x.best(0, true), n[1]);
@@ -452,8 +461,21 @@ public final class AskBoundTest extends Told {
         due("a pie behind it is not poured back", allOut(text + pie("u", 1, 99) + p).best(0, true), 0);
         due("nor a tea of a penny", allOut(text + tea("u", 1, 1, 0, 0) + p).best(0, true), 0);
         due("a tea of two is", allOut(text + tea("u", 1, 2, 0, 0) + p).best(0, true), 61);
-        due("that is not behind it", allOut(text + tea("u", 1, 2, 0, 0) + buyer("p", "plain", "a", "u t")).best(0, true),
-                0);
+        String u = buyer("p", "plain", "a", "u t");
+        due("that is not behind it", allOut(text + tea("u", 1, 2, 0, 0) + u).best(0, true), 0);
+        // by 60 both are DRUNK at 4, by 61 t is at 6 and u is LEFT, by 62 both are
+        due("both together", allOut("stop 300 bell 6; women 1; lips 60; sip 1;" + coach("a", 0) + tea("t", 1, 2, 99, 20)
+                + tea("u", 1, 4, 0, 0) + buyer("p", "plain", "a", "t u")).best(0, true), 62);
+        StringBuilder six = new StringBuilder("stop 300 bell 300; women 2; lips 60; sip 1;" + coach("a", 0)
+                + tea("t", 1, 2, 0, 0));
+        for (int i = 0; i < 6; i++) {
+            six.append(buyer("b" + "abcdef".charAt(i), "plain", "a", "t"));
+        }
+        TeaJunction x = allOut(six.toString());
+        due("of six", x.best(0, true), 61);
+        due("of six", x.best(0, false), 0);
+        due("six are SERVED", x.round(4), 6);
+        due("nothing LEFT", x.round(2), 0);
         due("a soup is", allOut(text + "thing u soup secs 1 price 2 hot 0 cools 0;" + p).best(0, true), 61);
     }
 
@@ -668,6 +690,26 @@ public final class AskBoundTest extends Told {
         ahead("behind what is too hot", x, 1, 0);
         x = allOut(pouring("", 20, 50, 0) + tea("w", 1, 99, 0) + buyer("p", "plain", "a", "t w"));
         ahead("ahead of what is too hot", x, 1, 1000);
+        // lips of 19 and less: as he would begin to it is too cold, and he has waited till then
+        for (int lips = 9; lips <= 20; lips++) {
+            int cool = 6 * (30 - lips);
+            x = allOut(pouring("", 20, 30, 10).replace("lips 60", "lips " + lips) + buyer("p", "plain", "a", "t u"));
+            yes("the pie from then", x.set(0, cool + 20));
+            ahead("lips " + lips, x, 1, 1000);
+            yes("a second less", x.set(0, cool + 19));
+            ahead("lips " + lips, x, 1, 0);
+            yes("20 more", x.set(0, cool + 40));
+            ahead("lips " + lips, x, 1, lips < 20 ? 1000 : 2000);
+        }
+        // two pies behind it, from 120 till 160
+        x = allOut(pouring("", 20, 30, 10).replace("lips 60", "lips 10") + pie("v", 1)
+                + buyer("p", "plain", "a", "t u v"));
+        yes("bell 160", x.set(0, 160));
+        ahead("both pies", x, 1, 2000);
+        yes("bell 159", x.set(0, 159));
+        ahead("one pie", x, 1, 1000);
+        x = allOut(pouring("", 20, 30, 0).replace("lips 60", "lips 19") + buyer("p", "plain", "a", "t u"));
+        ahead("it never is no hotter than 19", x, 1, 0);
         // Too cold and something too hot behind it.
         x = allOut(pouring("", 20, 19, 0) + tea("w", 1, 99, 0) + pie("v", 1) + buyer("p", "plain", "a", "t w v"));
         ahead("then too hot, then a pie", x, 1, 0);
@@ -703,6 +745,16 @@ public final class AskBoundTest extends Told {
         yes("bell 26", x.set(0, 26));
         ahead("q has", x, 2, 2000);
         ahead("without it not", x, 1, 1000);
+    }
+
+    /** Each one who had one has it, not but the last. */
+    private static void aheadOfTwo() {
+        TeaJunction x = allOut(pouring("", 20, 19, 0) + buyer("p", "plain", "a", "t") + buyer("q", "plain", "a", "t")
+                + buyer("r", "plain", "b", "t"));
+        int[] due = {3000, 2000, 1000, 0, -1000};
+        for (int many = 0; many < due.length; many++) {
+            ahead("too cold for each", x, many, due[many]);
+        }
     }
 
     private static void aheadByOdds() {

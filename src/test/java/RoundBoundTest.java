@@ -377,6 +377,13 @@ public final class RoundBoundTest extends Told {
         due("SERVED", x.served(0, 1), 81);
         due("LEFT both", x.served(0, 3), 3);
         due("BEHIND", x.served(0, 4), 1);
+        x = allOut("stop 100 bell 30; pace 10; women 2;" + coach("a", 20) + pie("t", 60) + pie("u", 1)
+                + buyer("p", "plain", "a", "t u") + buyer("q", "plain", "a", "t u") + buyer("r", "plain", "a", "u"));
+        int[] are = {1, 1, 0};
+        for (int i = 0; i < 3; i++) {
+            due("of three, BEHIND " + i, x.served(i, 4), are[i]);
+        }
+        due("two are", x.round(3), 2);
         due("SERVED beyond the stop, too", allOut("stop 60 bell 1;" + coach("a", 0) + pie("t", 60) + pie("u", 1)
                 + buyer("p", "plain", "a", "t u")).served(0, 1), 61);
     }

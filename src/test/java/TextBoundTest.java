@@ -26,6 +26,7 @@ public final class TextBoundTest {
         daysNames();
         daysLines();
         whatAJunctionClears();
+        aSmallerOneBehind();
         Check.end("TextBoundTest");
     }
 
@@ -511,5 +512,56 @@ public final class TextBoundTest {
         for (int i = 0; i < counts.length; i++) {
             due("count(" + i + ")", x.count(i), counts[i]);
         }
+    }
+
+    /** Of larger JUNCTIONS ahead of it nothing is left: no NAME, no order, no late, nothing wanted, nothing LEFT. */
+    private static void aSmallerOneBehind() {
+        String large = "stop 300 bell 8; women 2; change 9; lips 9; sip 9; pace 9; late 0 2 3 5; order 0-far;"
+                + "coach z yards 1; coach y yards 2; coach w yards 3; coach v yards 4;"
+                + "thing zz pie secs 9 price 9 hot 9 cools 9; thing yy tea secs 8 price 8 hot 8 cools 8;"
+                + "thing ww soup secs 7 price 7 hot 7 cools 7; buyer zzz early coach y odds 9 dear 9 wants yy zz ww;"
+                + "buyer yyy early coach y odds 9 dear 9 wants zz yy ww;buyer www early coach v odds 1 dear 1 wants ww;"
+                + "buyer vvv early coach v odds 9 dear 9 wants zz;";
+        String small = "women 1; pace 10; coach a yards 0; coach b yards 10; coach c yards 11;"
+                + "thing t tea secs 20 price 4 hot 20 cools 1; thing u pie secs 20 price 5 hot 0 cools 0;"
+                + "buyer o plain coach a odds 5 dear 3 wants u; buyer p plain coach b odds 5 dear 3 wants u;"
+                + "buyer q plain coach c odds 5 dear 3 wants t;";
+        TeaJunction x = afterLarge(large, small);
+        Twin.same("a smaller one", x, Check.at(small));
+        x = afterLarge(large, small);
+        due("wants u alone", x.buyer(0, 4), 2);
+        due("wants t alone", x.buyer(2, 4), 1);
+        for (int i = 0; i < 3; i++) {
+            Check.due("out", x.out(i, true), true);
+        }
+        due("no order: p", x.served(1, 0), 20);
+        due("no order: q", x.served(2, 0), 40);
+        due("nothing LEFT", x.round(2), 0);
+        due("pence", x.round(0), 14);
+        due("never late: it is 20 yet", x.ahead(0, 1), 3000);
+        due("out of one of the former", Check.days(x, "out vvv;"), fault(2, "out "));
+        due("out of one of the former", Check.days(x, "out zzz;"), fault(2, "out "));
+        due("hot of one of the former", Check.days(x, "hot ww 5;"), fault(2, "hot "));
+        String one = "coach a yards 0; thing t pie secs 1 price 1 hot 0 cools 0;";
+        x = afterLarge(large, one);
+        String ahead = "thing t pie secs 1 price 1 hot 0 cools 0; coach a yards 0; buyer p plain coach ";
+        due("a COACH of the former", Check.junction(x, ahead + "y odds 0 dear 0 wants t;"), fault(2, ahead));
+        ahead += "a odds 0 dear 0 wants ";
+        due("a THING of the former", Check.junction(x, ahead + "yy;"), fault(2, ahead));
+        due("their NAMES are free", Check.junction(x, large), 0);
+    }
+
+    /** Twice, as there might be two of them by turns. */
+    private static TeaJunction afterLarge(String large, String text) {
+        TeaJunction x = new TeaJunction();
+        for (int i = 0; i < 2; i++) {
+            due("a large one", Check.junction(x, large), 0);
+            for (int who = 0; who < 4; who++) {
+                Check.due("out", x.out(who, true), true);
+            }
+            due("www, vvv at 0, zzz at 7, too late to drink", x.round(2), 5);
+        }
+        due("then " + text, Check.junction(x, text), 0);
+        return x;
     }
 }
