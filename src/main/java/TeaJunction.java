@@ -1056,7 +1056,8 @@ public final class TeaJunction {
         }
 
         int farOf(int who, int urn) {
-            return Math.abs(yards[buyer[who].coach] - urn);
+            int at = yards[buyer[who].coach];
+            return at < urn ? urn - at : at - urn;
         }
 
         int wayOf(int who, int urn) {

@@ -653,6 +653,10 @@ public final class AskBoundTest extends Told {
         ahead("20", allOut(pouring("", 20, 20, 0) + p), 1, 1000);
         ahead("19", allOut(pouring("", 20, 19, 0) + p), 1, 0);
         ahead("0", allOut(pouring("", 20, 0, 20) + p), 1, 0);
+        for (String kind : new String[] {"pound", "early"}) {
+            ahead("20 of " + kind, allOut(pouring("", 20, 20, 0) + buyer("p", kind, "a", "t")), 1, 1000);
+            ahead("19 of " + kind, allOut(pouring("", 20, 19, 0) + buyer("p", kind, "a", "t")), 1, 0);
+        }
         ahead("a fresh one of 19", allOut(pouring("", 20, 19, 0) + p), 0, 1000);
         ahead("a fresh one of 0", allOut(pouring("", 20, 0, 0) + p), 0, 1000);
         // 1 second: cut, it is as hot yet; a minute late 1, 2, 3 less

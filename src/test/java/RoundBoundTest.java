@@ -253,6 +253,9 @@ public final class RoundBoundTest extends Told {
         ahead("waits is 14", coaches, "plain coach a" + rest, "plain coach b" + rest, "not (waits = 14)", false);
         ahead("an early one waits 20", coaches, "plain coach a" + rest, "early coach b" + rest, "not (waits = 20)",
                 false);
+        ahead("an early one came at 0, not behind his WAY", coaches, "plain coach a" + rest, "early coach b" + rest,
+                "waits = 20", true);
+        farIsInYards();
         // exact: 1, of a pound one 0
         ahead("exact", coaches, "plain coach a" + rest, "pound coach a" + rest, "exact*far", false);
         ahead("an early one is exact", coaches, "pound coach a" + rest, "early coach a" + rest, "not exact*far", false);
@@ -260,6 +263,20 @@ public final class RoundBoundTest extends Told {
         ahead("many", coaches, "plain coach a" + rest + " v", "plain coach a" + rest, "many*far", false);
         ahead("many is 3", coaches, "plain coach a" + rest, "plain coach a odds 0 dear 0 wants u v t",
                 "not (many = 3)*far", false);
+    }
+
+    /** Of a pace of 5 the yards 6 and 7 are both a WAY of 3; the urn moves them. */
+    private static void farIsInYards() {
+        String text = "women 1; pace 5;" + coach("o", 0) + coach("a", 6) + coach("b", 7) + pie("t", 20)
+                + buyer("x", "early", "o", "t") + buyer("p", "plain", "a", "t") + buyer("q", "plain", "b", "t");
+        TeaJunction x = allOut(text + "order 0 - (far = 7);");
+        due("p has a WAY of 3", x.buyer(1, 6), 3);
+        due("q has a WAY of 3", x.buyer(2, 6), 3);
+        due("q is 7 yards away", x.served(2, 0), 20);
+        yes("urn", x.set(1, 13));
+        due("p has a WAY of 3", x.buyer(1, 6), 3);
+        due("q has a WAY of 3", x.buyer(2, 6), 3);
+        due("p is 7 yards away", x.served(1, 0), 20);
     }
 
     /** Which of an exact one (p, the first) and a pound one (q) is ahead by E: of equal ones it is p. */
@@ -282,6 +299,14 @@ public final class RoundBoundTest extends Told {
         exactAhead("(5*exact and 3) = 1", false);
         exactAhead("not (0-exact)", true);
         exactAhead("not not (9*exact)", false);
+        // what is below 0 is so, too
+        exactAhead("0-not (0-exact)", false);
+        exactAhead("(0-exact) and 1", false);
+        exactAhead("7 and 0-exact", false);
+        exactAhead("(0-exact) and (0-9)", false);
+        exactAhead("(0-exact) or 0", false);
+        exactAhead("0 or 0-exact", false);
+        exactAhead("0-(exact and (0-9))", true);
         exactAhead("1 < exact", true);
         exactAhead("0 < exact", false);
         exactAhead("exact < 1", true);

@@ -1,6 +1,10 @@
 import java.io.IOException;
 import java.nio.file.Files;
 import java.nio.file.Path;
+import java.util.HashMap;
+import java.util.HashSet;
+import java.util.Map;
+import java.util.Set;
 import java.util.regex.Matcher;
 import java.util.regex.Pattern;
 
@@ -25,12 +29,13 @@ public final class RulesTest {
         only(code, "\\bthrow\\s+new\\s+(\\w+)", "NoSuchElementException");
         only(code, "\\bSystem\\.(\\w+)", "arraycopy");
         only(code, "\\bInteger\\.(\\w+)", "bitCount");
-        only(code, "\\bMath\\.(\\w+)", "abs|min|max");
+        only(code, "\\bMath\\.(\\w+)", "min|max");
         Check.due("signs below 128", code.chars().allMatch(c -> c < 128), true);
         Check.due("some twelve classes at most",
                 Pattern.compile("\\b(class|enum|interface|record) \\w+").matcher(code).results().count() <= 12, true);
         Check.due("one class that is public", Pattern.compile("\\bpublic \\w* ?class").matcher(code).results().count(), 1);
         methods(source);
+        depths(code);
         Check.end("RulesTest");
     }
 
@@ -65,5 +70,36 @@ public final class RulesTest {
             Check.due("parameters of " + lines[i].trim(), m.group(2).split(",").length <= 7, true);
         }
         Check.due("methods found", found > 90, true);
+    }
+
+    /** Calls that are no recursion go at most eight deep: methods of one name count as one, E but once. */
+    private static void depths(String code) {
+        Pattern head = Pattern.compile("(?m)^( {4}| {8})(?! |if|for|while|switch|else)[\\w<>\\[\\] ]+ (\\w+)\\([^()]*\\)[^;{]*\\{$");
+        Map<String, Set<String>> calls = new HashMap<>();
+        Matcher m = head.matcher(code);
+        while (m.find()) {
+            int end = code.indexOf("\n" + m.group(1) + "}", m.end());
+            Set<String> of = calls.computeIfAbsent(m.group(2), n -> new HashSet<>());
+            Pattern.compile("\\b(\\w+)\\(").matcher(code.substring(m.end(), end)).results().forEach(r -> of.add(r.group(1)));
+        }
+        Check.due("methods found", calls.size() > 80, true);
+        for (String name : calls.keySet()) {
+            Check.due("calls below " + name, depth(calls, name, new HashSet<>()) <= 8, true);
+        }
+    }
+
+    private static int depth(Map<String, Set<String>> calls, String name, Set<String> above) {
+        boolean ofE = name.matches("read(Whole|Test|Sum|Product|Part)");
+        if (!calls.containsKey(name) || above.contains(name)) {
+            return 0;
+        }
+        above.add(name);
+        int most = 0;
+        for (String next : calls.get(name)) {
+            boolean within = ofE && next.matches("read(Whole|Test|Sum|Product|Part)");
+            most = Math.max(most, depth(calls, next, above) - (within ? 1 : 0));
+        }
+        above.remove(name);
+        return most + 1;
     }
 }
